@@ -730,6 +730,7 @@ public final class ShortcutDuty {
             return was;
         }
 
+        /** What is due without a boat. */
         int dutyOn(int spared, int load, int day) {
             boolean isSunday = day % 7 == 6;
             if (spared <= free || (isSunday && sundaysDue == 0)) {
@@ -748,8 +749,8 @@ public final class ShortcutDuty {
 
         private final int number;
         private int kind;
-        private int a;
-        private int b;
+        /** The two places that it joins, as bits. */
+        private int ends;
         private int span;
         private int firstDay;
         private int lastDay;
@@ -761,8 +762,7 @@ public final class ShortcutDuty {
 
         void begin(int itsKind) {
             kind = itsKind;
-            a = 0;
-            b = 0;
+            ends = 0;
             span = 0;
             firstDay = 0;
             lastDay = 0;
@@ -771,8 +771,7 @@ public final class ShortcutDuty {
 
         void become(Link other) {
             kind = other.kind;
-            a = other.a;
-            b = other.b;
+            ends = other.ends;
             span = other.span;
             firstDay = other.firstDay;
             lastDay = other.lastDay;
@@ -782,10 +781,6 @@ public final class ShortcutDuty {
         /** A lane's bit; a road has none. */
         int laneBit() {
             return kind == ROAD ? 0 : 1 << number;
-        }
-
-        boolean isBetween(int p, int q) {
-            return (a == p && b == q) || (a == q && b == p);
         }
     }
 
@@ -943,8 +938,7 @@ public final class ShortcutDuty {
 
         void placeLastLane(int a, int b, int span) {
             if (laneCount > 0) {
-                lanes[laneCount - 1].a = a;
-                lanes[laneCount - 1].b = b;
+                lanes[laneCount - 1].ends = 1 << a | 1 << b;
                 lanes[laneCount - 1].span = span;
             }
         }
@@ -962,8 +956,9 @@ public final class ShortcutDuty {
 
         /** The road between two places; null if they have none. */
         Link roadOf(int a, int b) {
+            int ends = 1 << a | 1 << b;
             for (int i = 0; i < roadCount; i++) {
-                if (roads[i].isBetween(a, b)) {
+                if (roads[i].ends == ends) {
                     return roads[i];
                 }
             }
@@ -973,9 +968,10 @@ public final class ShortcutDuty {
         /** What joins two places on a day; null for nothing. */
         Link linkOf(int a, int b, int day) {
             Link link = roadOf(a, b);
+            int ends = 1 << a | 1 << b;
             for (int i = 0; i < laneCount; i++) {
                 boolean isShorter = link == null || lanes[i].span < link.span;
-                if (isShorter && lanes[i].isBetween(a, b) && isOpen(lanes[i], day)) {
+                if (isShorter && lanes[i].ends == ends && isOpen(lanes[i], day)) {
                     link = lanes[i];
                 }
             }
@@ -990,23 +986,22 @@ public final class ShortcutDuty {
             return bits;
         }
 
-        boolean hasBoat(int laneBits) {
+        int boatLanes() {
+            int bits = 0;
             for (int i = 0; i < laneCount; i++) {
-                if (lanes[i].kind == Link.BOAT && (laneBits & (1 << i)) != 0) {
-                    return true;
-                }
+                bits |= lanes[i].kind == Link.BOAT ? 1 << i : 0;
             }
-            return false;
+            return bits;
         }
 
         /** Lengths by road between all places; they hold until a road is another. */
         void reckonRoads() {
-            for (int i = 0; i < PAIRS; i++) {
-                distances[i] = i % (MAX_PLACES + 1) == 0 ? 0 : FAR;
-            }
-            for (int i = 0; i < roadCount; i++) {
-                distances[pairOf(roads[i].a, roads[i].b)] = roads[i].span;
-                distances[pairOf(roads[i].b, roads[i].a)] = roads[i].span;
+            for (int a = 0; a < places; a++) {
+                for (int b = 0; b < places; b++) {
+                    Link link = roadOf(a, b);
+                    int direct = link == null ? FAR : link.span;
+                    distances[pairOf(a, b)] = a == b ? 0 : direct;
+                }
             }
             for (int over = 0; over < places; over++) {
                 for (int a = 0; a < places; a++) {
@@ -1049,11 +1044,6 @@ public final class ShortcutDuty {
         /** What is saved where the length by road may be NONE. */
         static int sparedOf(int roadLength, int span) {
             return roadLength == NONE ? 0 : Math.max(0, roadLength - span);
-        }
-
-        int dutyOf(int spared, int laneBits, int load, int day) {
-            int due = law.dutyOn(spared, load, day);
-            return due > 0 && hasBoat(laneBits) ? 0 : due;
         }
     }
 
@@ -1142,9 +1132,10 @@ public final class ShortcutDuty {
             }
             link.begin(linkKind);
             advance();
-            link.a = takeNumber(0, target.places - 1);
+            int a = takeNumber(0, target.places - 1);
             takeWord("to");
-            link.b = takeOtherPlace(link.a, linkKind == Link.ROAD);
+            int b = takeOtherPlace(a, linkKind == Link.ROAD);
+            link.ends = 1 << a | 1 << b;
             link.span = takeNumber(1, 30);
             if (linkKind == Link.LANE) {
                 takeWord("from");
@@ -1182,13 +1173,6 @@ public final class ShortcutDuty {
             takeWord("from");
             walk.stops[0] = takeNumber(0, target.places - 1);
             takeWord("by");
-            readStops(walk);
-            if (fault == 0) {
-                target.walkCount++;
-            }
-        }
-
-        private void readStops(Walk walk) {
             walk.stepCount = 0;
             for (int i = 1; i <= MAX_STEPS + 1 && fault == 0 && (i == 1 || kind == NUMBER); i++) {
                 int at = start;
@@ -1199,6 +1183,9 @@ public final class ShortcutDuty {
                     walk.stops[i] = next;
                     walk.stepCount = i;
                 }
+            }
+            if (fault == 0) {
+                target.walkCount++;
             }
         }
 
@@ -1336,7 +1323,8 @@ public final class ShortcutDuty {
                 }
             }
             spared = Realm.sparedOf(realm.byRoad(walk.first(), walk.last()), total);
-            owed = realm.dutyOf(spared, laneBits, walk.load, walk.day);
+            boolean byBoat = (laneBits & realm.boatLanes()) != 0;
+            owed = byBoat ? 0 : realm.law.dutyOn(spared, walk.load, walk.day);
         }
 
         private void goBy(Link link) {
@@ -1406,6 +1394,7 @@ public final class ShortcutDuty {
         private final int[] stepLanes;
         private Realm realm;
         private int roadLength;
+        private int boats;
         private int goal;
         private int day;
         private int load;
@@ -1422,6 +1411,7 @@ public final class ShortcutDuty {
         void find(Realm in, int from, int to, int onDay, int withLoad) {
             realm = in;
             roadLength = in.byRoad(from, to);
+            boats = in.boatLanes();
             goal = to;
             day = onDay;
             load = withLoad;
@@ -1489,8 +1479,10 @@ public final class ShortcutDuty {
 
         /** A way's duty, if it were so much longer than it is. */
         int dutyOf(int i, int longer) {
-            int spared = Realm.sparedOf(roadLength, lengths[i] + longer);
-            return realm.dutyOf(spared, laneBits[i], load, day);
+            if ((laneBits[i] & boats) != 0) {
+                return 0;
+            }
+            return realm.law.dutyOn(Realm.sparedOf(roadLength, lengths[i] + longer), load, day);
         }
 
         int costOf(int i) {

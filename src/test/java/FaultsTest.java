@@ -66,6 +66,12 @@ public final class FaultsTest {
         behindHead("", ";", 1);
         behindHead("", "roads 0 to 1 5;", 1);
         behindHead("", "roa 0 to 1 5;", 1);
+        behindHead("", "roadz 0 to 1 5;", 1);
+        behindHead("", "aroad 0 to 1 5;", 1);
+        behindHead("road", "` 0 to 1 5;", 1);
+        behindHead("road", "{ 0 to 1 5;", 1);
+        behindHead("road 0 to 1 5", ":;", 1);
+        behindHead("road 0 to 1 5", "/;", 1);
         behindHead("", "" + (char) 0, 1);
         behindHead("", "" + (char) 255, 1);
         behindHead("", "" + (char) 233, 1);

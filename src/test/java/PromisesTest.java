@@ -206,6 +206,9 @@ public final class PromisesTest {
         ShortcutDuty y = Check.told(Check.HEAD + "lane 0 to 1 2 from 0 to 6; walk 0 load 1 on 0 from 0 by 2 1;"
                 + "walk 0 load 1 on 0 from 0 by 1 0 1 0 1 0; road 2 to 3 1; walk 0 load 1 on 0 from 2 by 3;");
         due("12: none is lawful", y.steps(0), 0);
+        due("11: the first of all", y.unlawful(), 0);
+        due("10: six steps, where to", y.walk(1, 4), 0);
+        due("10: six steps", y.walk(1, 5), 6);
         due("13: a lane more than once", y.length(1), 12);
         due("16: a lane more than once", y.lanes(1), 1);
         due("16: roads alone", y.lanes(2), 0);
@@ -245,6 +248,14 @@ public final class PromisesTest {
         due("15: 7 is none", z.duty(8), 270);
         ShortcutDuty w = Check.told(LAND + "law load; law light;");
         due("15: a later law strikes", w.duty(0), 15);
+        ShortcutDuty v = Check.told("kingdom places 3 days 7 rate 1 free 0 time 0; law free; law sunday;"
+                + "boat 1 to 2 1; road 0 to 1 3; road 2 to 0 3; ford 0 to 1 2; flood on 0;"
+                + "walk 0 load 1 on 6 from 1 by 2; walk 0 load 1 on 6 from 1 by 0; walk 0 load 1 on 0 from 1 by 0;");
+        due("14: by road over place 0", v.saved(0), 5);
+        due("15: the first lane is a boat", v.duty(0), 0);
+        due("15: a duty of 1 on a Sunday that is due", v.duty(1), 1);
+        due("15: a flood on the first day", v.duty(2), 0);
+        due("34: Sundays are due", v.law(3, 1), 1);
     }
 
     private static void owesAndTakings() {
@@ -278,6 +289,7 @@ public final class PromisesTest {
         due("20: not lawful", x.hope(1, 1), NONE);
         due("19: no such what", x.chance(0, 2), -2);
         due("20: no such what", x.hope(0, -1), -2);
+        due("20: no such what", x.hope(0, 2), -2);
         due("19: no such what, not lawful", x.chance(1, 2), -2);
         due("19: no such walk", x.chance(4, 0), -2);
         due("20: no such walk", x.hope(-1, 0), -2);
@@ -295,6 +307,10 @@ public final class PromisesTest {
         due("19: sure to be seen", z.chance(0, 0), 1);
         due("19: sure to be seen", z.chance(0, 1), 1);
         due("19: watched 0", z.chance(1, 0), 0);
+        ShortcutDuty w = Check.told(Check.HEAD + "ford 0 to 1 2 watched 1; ford 1 to 2 2 watched 50;"
+                + "walk 0 load 1 on 0 from 0 by 1 2;");
+        due("19: 1 and 50 of a hundred", w.chance(0, 0), 101);
+        due("19: 1 and 50 of a hundred", w.chance(0, 1), 200);
     }
 
     private static void shortestHiddenWays() {
@@ -482,6 +498,13 @@ public final class PromisesTest {
         due("31: one on both", z.watchers(0), 1);
         due("31: one on both", z.watchers(1), 2);
         due("31: no walks", Check.told(Check.HEAD).watchers(0), 0);
+        StringBuilder eight = new StringBuilder("kingdom places 2 days 8 rate 1 free 0 time 0; road 0 to 1 2;");
+        for (int i = 0; i < 8; i++) {
+            eight.append("lane 0 to 1 1 from " + i + " to " + i + "; walk 0 load 1 on " + i + " from 0 by 1;");
+        }
+        ShortcutDuty w = Check.told(eight.toString());
+        due("31: all eight, a duty of 1 each", w.watchers(0), 8);
+        due("31: all eight, a duty of 1 each", w.watchers(1), 255);
     }
 
     private static void byRateLaw() {
@@ -615,6 +638,13 @@ public final class PromisesTest {
         due("39: no such seed", x.seen(-1, 0), -2);
         due("39: no such seed", x.seen(2000000001, 0), -2);
         due("39: no such seed, not lawful", x.seen(-1, 1), -2);
+        ShortcutDuty y = Check.told(Check.HEAD + "ford 0 to 1 2 watched 39; ford 1 to 2 2 watched 1;"
+                + "ford 2 to 3 1 watched 0; walk 0 load 1 on 0 from 1 by 2 3 2 1 0; road 0 to 1 3;"
+                + "walk 0 load 1 on 0 from 1 by 2; walk 0 load 1 on 0 from 0 by 1;");
+        // From seed 1 the draws are 38, 58, 13, 15, 51, ..; unwatched steps draw none.
+        due("39: the third draw, 13 below 39", y.seen(1, 0), 1);
+        due("39: draw 38 above 1", y.seen(1, 1), 0);
+        due("39: draw 38 below 39", y.seen(1, 2), 1);
         due("40: one of each", x.caught(0, 1), 24);
         due("40: two of each", x.caught(0, 2), 39);
         due("40: draw 55", x.caught(5, 1), 0);
