@@ -43,6 +43,9 @@ public final class ShortcutDuty {
     private final Ways search;
     private final Trip trip;
     private final Slots slots;
+    /** The lanes of walks that owe duty, as bits, and how many such walks there are. */
+    private final int[] owingLanes;
+    private int owing;
 
     public ShortcutDuty() {
         tape = new Tape();
@@ -57,6 +60,7 @@ public final class ShortcutDuty {
         search = new Ways();
         trip = new Trip();
         slots = new Slots();
+        owingLanes = new int[MAX_WALKS];
     }
 
     public int feed(int a, int b, int c, int d, int e) {
@@ -341,14 +345,18 @@ public final class ShortcutDuty {
         if (!realm.exists() || what < 0 || what > 1) {
             return NO_SUCH;
         }
-        int fewest = NONE;
+        noteOwing();
+        if (owing == 0) {
+            return NONE;
+        }
+        int fewest = (1 << realm.laneCount) - 1;
         // The sets come from the least on, so of equally many the first is kept.
-        for (int set = 0; set < (1 << realm.laneCount); set++) {
-            if ((fewest == NONE || Integer.bitCount(set) < Integer.bitCount(fewest)) && meetsAllOwing(set)) {
+        for (int set = 1; set < (1 << realm.laneCount); set++) {
+            if (Integer.bitCount(set) < Integer.bitCount(fewest) && meetsAllOwing(set)) {
                 fewest = set;
             }
         }
-        return what == 0 && fewest != NONE ? Integer.bitCount(fewest) : fewest;
+        return what == 0 ? Integer.bitCount(fewest) : fewest;
     }
 
     public int by(int rate, int free) {
@@ -644,9 +652,20 @@ public final class ShortcutDuty {
         draft.reckonRoads();
     }
 
-    private boolean meetsAllOwing(int set) {
+    /** Notes the lanes of each lawful walk that owes duty: it has one, or it would not be shorter than the road. */
+    private void noteOwing() {
+        owing = 0;
         for (int walk = 0; walk < realm.walkCount; walk++) {
-            if (isLawful(realm, walk) && trip.owed > 0 && (trip.laneBits & set) == 0) {
+            if (isLawful(realm, walk) && trip.owed > 0 && owing < MAX_WALKS) {
+                owingLanes[owing] = trip.laneBits;
+                owing++;
+            }
+        }
+    }
+
+    private boolean meetsAllOwing(int set) {
+        for (int i = 0; i < owing; i++) {
+            if ((owingLanes[i] & set) == 0) {
                 return false;
             }
         }

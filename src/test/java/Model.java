@@ -681,7 +681,7 @@ final class Model {
         if (land.places == 0 || out(what, 0, 1)) {
             return -2;
         }
-        for (int size = 0; size <= land.lanes.size(); size++) {
+        for (int size = 1; size <= land.lanes.size() && sum(land, -1, -1) > 0; size++) {
             for (int set = 0; set < 1 << land.lanes.size(); set++) {
                 boolean meets = Integer.bitCount(set) == size;
                 for (int i = 0; i < land.walks.size(); i++) {

@@ -9,7 +9,7 @@ import java.util.Random;
 
 /** Random runs of up to 512 calls, each answer compared with the model's. */
 public final class ModelTest {
-    private static final int RUNS = 400;
+    private static final int RUNS = 150;
     private static final int CALLS = 512;
 
     private final Random random;
@@ -26,7 +26,8 @@ public final class ModelTest {
 
     public static void main(String[] args) throws Exception {
         Check check = new Check();
-        for (int run = 0; run < RUNS; run++) {
+        int runs = args.length > 0 ? Integer.parseInt(args[0]) : RUNS;
+        for (int run = 0; run < runs; run++) {
             new ModelTest(run, check).run(run);
         }
         check.close("ModelTest");

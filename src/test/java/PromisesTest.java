@@ -488,8 +488,8 @@ public final class PromisesTest {
         due("31: no such what", x.watchers(2), -2);
         due("31: no such what", x.watchers(-1), -2);
         x.law(0, 0);
-        due("31: no duty", x.watchers(0), 0);
-        due("31: no duty", x.watchers(1), 0);
+        due("31: none owe, how many", x.watchers(0), NONE);
+        due("31: none owe, which", x.watchers(1), NONE);
         String land = "kingdom places 5 days 1 rate 1 free 0 time 0; road 0 to 1 9; road 1 to 2 9; road 2 to 3 9;"
                 + "ford 0 to 1 2; ford 1 to 2 2; ford 2 to 3 2; walk 0 load 1 on 0 from 0 by 1 2;";
         ShortcutDuty y = Check.told(land);
@@ -497,7 +497,7 @@ public final class PromisesTest {
         ShortcutDuty z = Check.told(land + "walk 0 load 1 on 0 from 1 by 2 3;");
         due("31: one on both", z.watchers(0), 1);
         due("31: one on both", z.watchers(1), 2);
-        due("31: no walks", Check.told(Check.HEAD).watchers(0), 0);
+        due("31: no walks", Check.told(Check.HEAD).watchers(0), NONE);
         StringBuilder eight = new StringBuilder("kingdom places 2 days 8 rate 1 free 0 time 0; road 0 to 1 2;");
         for (int i = 0; i < 8; i++) {
             eight.append("lane 0 to 1 1 from " + i + " to " + i + "; walk 0 load 1 on " + i + " from 0 by 1;");
