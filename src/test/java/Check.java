@@ -4,6 +4,18 @@ import java.nio.charset.StandardCharsets;
 final class Check {
     static final String HEAD = "kingdom places 4 days 7 rate 3 free 1 time 1;";
 
+    /** Roads 0-1-2-3 of 5 each; a watched lane, a watched ford, a boat. */
+    static final String LAND = HEAD
+            + "road 0 to 1 5; road 1 to 2 5; road 2 to 3 5;"
+            + "lane 0 to 2 4 from 0 to 5 watched 50; ford 1 to 3 6 watched 20; boat 0 to 3 9;"
+            + "flood on 2;"
+            + "walk 0 load 2 on 0 from 0 by 2 3; walk 1 load 3 on 2 from 0 by 1 3;"
+            + "walk 2 load 1 on 0 from 0 by 3; walk 0 load 1 on 6 from 0 by 1 3;";
+
+    /** A lane of 4 where the road is 10, and one walk. */
+    static final String SMALL = "kingdom places 3 days 1 rate 1 free 0 time 2;"
+            + "road 0 to 1 5; road 1 to 2 5; lane 0 to 2 4 from 0 to 0; walk 0 load 3 on 0 from 0 by 2;";
+
     private int wrong = 0;
     private int checked = 0;
 

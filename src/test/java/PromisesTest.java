@@ -3,17 +3,8 @@ public final class PromisesTest {
     private static final Check CHECK = new Check();
     private static final int NONE = ShortcutDuty.NONE;
 
-    /** Roads 0-1-2-3 of 5 each; a watched lane, a watched ford, a boat. */
-    private static final String LAND = Check.HEAD
-            + "road 0 to 1 5; road 1 to 2 5; road 2 to 3 5;"
-            + "lane 0 to 2 4 from 0 to 5 watched 50; ford 1 to 3 6 watched 20; boat 0 to 3 9;"
-            + "flood on 2;"
-            + "walk 0 load 2 on 0 from 0 by 2 3; walk 1 load 3 on 2 from 0 by 1 3;"
-            + "walk 2 load 1 on 0 from 0 by 3; walk 0 load 1 on 6 from 0 by 1 3;";
-
-    /** A lane of 4 where the road is 10, and one walk. */
-    private static final String SMALL = "kingdom places 3 days 1 rate 1 free 0 time 2;"
-            + "road 0 to 1 5; road 1 to 2 5; lane 0 to 2 4 from 0 to 0; walk 0 load 3 on 0 from 0 by 2;";
+    private static final String LAND = Check.LAND;
+    private static final String SMALL = Check.SMALL;
 
     private static void due(String call, long got, long want) {
         CHECK.due(call, got, want);
