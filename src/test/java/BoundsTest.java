@@ -698,8 +698,8 @@ public final class BoundsTest {
         due("32: in thought", x.takings(NONE), 1594890);
         due("32: in thought", x.law(1, 0), 0);
         due("32: no WALKS", Check.told(HEAD).by(99, 0), 0);
-        x.law(4, 0);
         x.lane(0, 6, 1, 1);
+        x.law(4, 0);
         due("32: by the rest of the law as it is now", x.by(99, 0), 177210);
         due("33: by the rest of the law as it is now", x.rate(1791), 2);
         ShortcutDuty y = Check.told(PROBE);
